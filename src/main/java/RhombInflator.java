@@ -14,9 +14,6 @@ public final class RhombInflator {
     private static final int FAULTY = 9;
 
     private final Patch patch;
-    private final Sides sides;
-    private final Figures figures;
-    private final Firsts firsts;
     private final Row current;
     private final Row shelf;
     private final Round round;
@@ -24,15 +21,16 @@ public final class RhombInflator {
     private final Printer printer;
     private Table table;
     private Table spare;
+    // The dear ones are made by the first call that asks for them.
+    private Sides sides;
+    private Figures figures;
+    private Firsts firsts;
     private boolean sidesFresh;
     private boolean figuresFresh;
     private int status;
 
     public RhombInflator() {
         patch = new Patch();
-        sides = new Sides(patch);
-        figures = new Figures(patch, sides);
-        firsts = new Firsts();
         current = new Row();
         shelf = new Row();
         round = new Round();
@@ -254,8 +252,9 @@ public final class RhombInflator {
         if (patch.lacks(i) || patch.lacks(j)) {
             return refuse(NO_SUCH);
         }
-        sidesNow().spread(i, Patch.ROOM);
-        return answer(sides.distanceOf(j));
+        Sides now = sidesNow();
+        now.spread(i, Patch.ROOM);
+        return answer(now.distanceOf(j));
     }
 
     public int around(int i, int n) {
@@ -275,11 +274,12 @@ public final class RhombInflator {
         if (patch.lacks(i)) {
             return refuse(NO_SUCH);
         }
-        if (sidesNow().twinOf(i) < 0) {
+        Sides now = sidesNow();
+        if (now.twinOf(i) < 0) {
             return refuse(THERE_IS_NONE);
         }
-        sides.follow(i, leg);
-        return answer(what == 0 ? sides.ribbonLength : sides.ribbonLeast);
+        now.follow(i, leg);
+        return answer(what == 0 ? now.ribbonLength : now.ribbonLeast);
     }
 
     public int like(int k, boolean flip) {
@@ -342,6 +342,9 @@ public final class RhombInflator {
     public int comes(int start, int figure) {
         if (start < 0 || start > 3 || figure < 0) {
             return refuse(WRONG_NUMBER);
+        }
+        if (firsts == null) {
+            firsts = new Firsts();
         }
         return orNone(firsts.depthOf(start, figure));
     }
@@ -556,6 +559,9 @@ public final class RhombInflator {
     }
 
     private Sides sidesNow() {
+        if (sides == null) {
+            sides = new Sides(patch);
+        }
         if (!sidesFresh) {
             sides.fill();
             sidesFresh = true;
@@ -564,8 +570,11 @@ public final class RhombInflator {
     }
 
     private Figures figuresNow() {
+        Sides now = sidesNow();
+        if (figures == null) {
+            figures = new Figures(patch, now);
+        }
         if (!figuresFresh) {
-            sidesNow();
             figures.fill();
             figuresFresh = true;
         }
@@ -742,15 +751,16 @@ public final class RhombInflator {
     private static final class Points {
         // A wheel at LEVEL 5, the richest patch, has fewer than 512 points.
         static final int ROOM = 512;
-        private static final int SLOTS = 1024;
+        private static final int SMALL_ROOM = 64;
 
-        private final long[] keys;
-        private final int[] slots;
+        private long[] keys;
+        // The number of a point and 1, or 0; twice as many slots as there is room, a power of two.
+        private int[] slots;
         private int count;
 
         Points() {
-            keys = new long[ROOM];
-            slots = new int[SLOTS];
+            keys = new long[SMALL_ROOM];
+            slots = new int[2 * SMALL_ROOM];
         }
 
         void empty() {
@@ -763,37 +773,42 @@ public final class RhombInflator {
         }
 
         int find(long key) {
-            int held = slots[slotFor(key)];
-            return held - 1;
+            return slots[slotFor(key)] - 1;
         }
 
         int add(long key) {
             int slot = slotFor(key);
-            if (slots[slot] == 0 && count < ROOM) {
+            if (slots[slot] == 0 && count < keys.length) {
                 keys[count] = key;
                 count++;
                 slots[slot] = count;
             }
-            return slots[slot] - 1;
+            return Math.max(slots[slot] - 1, 0);
         }
 
-        void growAll() {
-            Arrays.fill(slots, 0);
+        /** All points times GOLD, with room for as many more as the patch's halves may need. */
+        void growAll(int halves) {
+            if (halves + 2 > keys.length && keys.length < ROOM) {
+                keys = Arrays.copyOf(keys, ROOM);
+                slots = new int[2 * ROOM];
+            } else {
+                Arrays.fill(slots, 0);
+            }
             for (int point = 0; point < count; point++) {
                 keys[point] = Ring.timesGold(keys[point]);
                 slots[slotFor(keys[point])] = point + 1;
             }
         }
 
-        /** The slot that holds a point (its number and 1), or the free one in which it would stand. */
+        /** The slot that holds a point, or the free one in which it would stand. */
         private int slotFor(long key) {
-            int slot = (int) (key * 0x9E3779B97F4A7C15L >>> 54);
-            for (int n = 0; n < SLOTS; n++) {
+            int slot = (int) (key * 0x9E3779B97F4A7C15L >>> 48) & slots.length - 1;
+            for (int n = 0; n < slots.length; n++) {
                 int held = slots[slot];
                 if (held == 0 || keys[held - 1] == key) {
                     return slot;
                 }
-                slot = slot + 1 & SLOTS - 1;
+                slot = slot + 1 & slots.length - 1;
             }
             return slot;
         }
@@ -803,24 +818,33 @@ public final class RhombInflator {
     private static final class Patch {
         static final int ROOM = 890;
         static final int DEEPEST = 5;
+        // Enough for most patches that are looked at; a deeper cut makes room once for all.
+        private static final int SMALL_ROOM = 50;
         // How many halves a thin one, then a thick one, is behind 0 to 5 cuts.
         private static final int[] SIZES = {1, 2, 5, 13, 34, 89, 1, 3, 8, 21, 55, 144};
 
-        private final int[] kinds;
-        private final int[] addresses;
-        private final int[] corners;
-        private final int[] directions;
+        private int[] kinds;
+        private int[] addresses;
+        private int[] corners;
+        private int[] directions;
         private final Points points;
         private int root;
         private int depth;
         private int count;
 
         Patch() {
-            kinds = new int[ROOM];
-            addresses = new int[ROOM];
-            corners = new int[3 * ROOM];
-            directions = new int[2 * ROOM];
+            kinds = new int[SMALL_ROOM];
+            addresses = new int[SMALL_ROOM];
+            corners = new int[3 * SMALL_ROOM];
+            directions = new int[2 * SMALL_ROOM];
             points = new Points();
+        }
+
+        private void makeRoom() {
+            kinds = Arrays.copyOf(kinds, ROOM);
+            addresses = Arrays.copyOf(addresses, ROOM);
+            corners = Arrays.copyOf(corners, 3 * ROOM);
+            directions = Arrays.copyOf(directions, 2 * ROOM);
         }
 
         boolean lacks(int i) {
@@ -917,7 +941,10 @@ public final class RhombInflator {
             if (parts > ROOM) {
                 return;
             }
-            points.growAll();
+            if (parts > kinds.length) {
+                makeRoom();
+            }
+            points.growAll(parts);
             int at = parts;
             for (int i = count - 1; i >= 0; i--) {
                 at -= 2 + kinds[i];
@@ -1276,7 +1303,8 @@ public final class RhombInflator {
         static final int ATLAS_ROOM = 64;
 
         private final int[] widths;
-        private final int[] sectors;
+        // Four bits for each direction: 0, or 1 more than the sort of the sector that begins there.
+        private final long[] sectors;
         private final boolean[] ragged;
         private final int[] numbers;
         private final int[] listedFigures;
@@ -1290,7 +1318,7 @@ public final class RhombInflator {
             this.patch = patch;
             this.sides = sides;
             widths = new int[Points.ROOM];
-            sectors = new int[10 * Points.ROOM];
+            sectors = new long[Points.ROOM];
             ragged = new boolean[Points.ROOM];
             numbers = new int[Points.ROOM];
             listedFigures = new int[ATLAS_ROOM];
@@ -1302,16 +1330,16 @@ public final class RhombInflator {
             kinds = 0;
             for (int point = 0; point < points; point++) {
                 widths[point] = 0;
+                sectors[point] = 0;
                 ragged[point] = false;
             }
-            Arrays.fill(sectors, 0);
             for (int i = 0; i < patch.count; i++) {
                 addHalf(i, sides.twinOf(i));
             }
             for (int point = 0; point < points; point++) {
                 boolean full = widths[point] == 10;
                 inner += full ? 1 : 0;
-                numbers[point] = full && !ragged[point] ? leastNumber(10 * point) : NONE;
+                numbers[point] = full && !ragged[point] ? leastNumber(sectors[point]) : NONE;
                 enlist(numbers[point]);
             }
         }
@@ -1335,16 +1363,16 @@ public final class RhombInflator {
         }
 
         private void setSector(int point, int direction, int digit) {
-            sectors[10 * point + Math.floorMod(direction, 10)] = digit;
+            sectors[point] |= (long) digit << 4 * Math.floorMod(direction, 10);
         }
 
-        private int leastNumber(int base) {
+        private static int leastNumber(long round) {
             int least = NONE;
             for (int first = 0; first < 10; first++) {
-                if (sectors[base + first] != 0) {
+                if ((round >> 4 * first & 15) != 0) {
                     int number = 0;
-                    for (int n = 0; n < 10; n++) {
-                        int digit = sectors[base + (first + n) % 10];
+                    for (int n = first; n < first + 10; n++) {
+                        int digit = (int) (round >> 4 * (n % 10)) & 15;
                         number = digit == 0 ? number : 7 * number + digit;
                     }
                     least = least < 0 || number < least ? number : least;
