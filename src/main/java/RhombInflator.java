@@ -624,11 +624,11 @@ public final class RhombInflator {
 
         // The highest bit of each number is added apart, so that nothing is carried into the next one.
         static long plus(long x, long y) {
-            return (x & ~TOPS) + (y & ~TOPS) ^ (x ^ y) & TOPS;
+            return ((x & ~TOPS) + (y & ~TOPS)) ^ ((x ^ y) & TOPS);
         }
 
         static long minus(long x, long y) {
-            return (x | TOPS) - (y & ~TOPS) ^ (x ^ ~y) & TOPS;
+            return ((x | TOPS) - (y & ~TOPS)) ^ ((x ^ ~y) & TOPS);
         }
 
         static long turned(long x) {
@@ -1369,14 +1369,12 @@ public final class RhombInflator {
         private static int leastNumber(long round) {
             int least = NONE;
             for (int first = 0; first < 10; first++) {
-                if ((round >> 4 * first & 15) != 0) {
-                    int number = 0;
-                    for (int n = first; n < first + 10; n++) {
-                        int digit = (int) (round >> 4 * (n % 10)) & 15;
-                        number = digit == 0 ? number : 7 * number + digit;
-                    }
-                    least = least < 0 || number < least ? number : least;
+                int number = 0;
+                for (int n = first; n < first + 10; n++) {
+                    int digit = (int) (round >> 4 * (n % 10)) & 15;
+                    number = digit == 0 ? number : 7 * number + digit;
                 }
+                least = least < 0 || number < least ? number : least;
             }
             return least;
         }
@@ -1809,8 +1807,10 @@ public final class RhombInflator {
         }
 
         void look(Table table, int point) {
-            Arrays.fill(full, false);
-            Arrays.fill(labels, 0);
+            for (int d = 0; d < 10; d++) {
+                full[d] = false;
+                labels[d] = 0;
+            }
             filled = 0;
             long key = table.pointKey(point);
             for (int k = 0; k < table.count; k++) {

@@ -16,9 +16,12 @@ public final class RoomTest {
         useAll(used);
         long full = size(used);
         System.out.println("fields and elements: " + fresh + " in a new object, " + full + " in a used one");
-        // 512 calls of a run: at most 512 new objects, or 256 that are made and then grow to the utmost by one call.
+        RhombInflator grown = new RhombInflator();
+        grown.comes(0, 130);
+        // A run of 512 calls: all of them new objects; or each new one followed by the dearest call there is.
         check.holds("512 new objects have room", 512 * fresh < 7_300_000);
-        check.holds("256 used ones have room", 256 * full < 7_300_000 * 2);
+        check.holds("256 new ones with comes() have room", 256 * size(grown) < 7_300_000);
+        check.holds("100 used ones have room", 100 * full < 7_300_000);
         checkCallsMakeNothing(check, used);
         check.end("RoomTest");
     }
