@@ -148,9 +148,24 @@ public final class TablePromisesTest {
             "many(13) = 3", "holes(2) = 1");
         run("promise 43, the last may be dead", "load 'thick 0 0 0 0 turn 2 hand 0;thin 0 0 0 0 turn 6 hand 0;' = 2", "force(1) = 1",
             "holes(2) = 1", "force(1) ! 8");
+        run("promise 43, the first is dead", "load 'thin 0 0 0 0 turn 7 hand 0;thin 0 0 0 0 turn 2 hand 0;' = 2", "holes(4) = 0", "force(1) ! 8");
+        forces("thin 0 0 0 0 turn 0 hand 1;thick 0 0 0 0 turn 6 hand 0;thick 1 0 0 0 turn 5 hand 1;", "thin 0 0 0 0 turn 2 hand 0;");
+        forces("thick 0 0 0 0 turn 8 hand 1;thin 0 0 0 0 turn 4 hand 1;thin 0 0 0 0 turn 2 hand 1;", "thin 0 0 0 0 turn 2 hand 0;");
+        forces("thin 0 0 0 0 turn 7 hand 0;thick 0 0 0 0 turn 3 hand 0;", "thin 0 0 0 0 turn 7 hand 1;");
+        forces("thick 0 0 0 0 turn 3 hand 1;thick 1 0 0 1 turn 1 hand 1;", "thin 1 1 0 1 turn 6 hand 1;");
+        // At B of the thin one, six tenths from the direction 9 on, with an arrow of MARK 0 into it on both sides.
+        forces("thin 0 0 0 0 turn 0 hand 1;", "thick 1 0 0 0 turn 9 hand 0;");
+        forces("thin 0 0 0 0 turn 0 hand 1;thick 1 0 0 0 turn 9 hand 0;", "thick 1 0 0 0 turn 5 hand 1;");
+        forces("thick 0 0 0 0 turn 4 hand 0;thin 0 0 0 0 turn 8 hand 0;thin 0 0 0 0 turn 0 hand 0;", "thick 0 0 0 0 turn 4 hand 1;");
+        forces("thick 0 0 0 0 turn 7 hand 0;thin 0 0 0 0 turn 1 hand 1;thick 1 1 0 0 turn 9 hand 1;", "thick 1 0 - 1 0 turn 9 hand 0;");
         // A thin one alone: B is forced, and the A of what is laid there would be farther than a rhomb may lie.
         run("promise 43, too far", "lay(0, 999, 0, 0, 0, 0, 0) = 0", "holes(3) = 1", "force(1) ! 8", "many(13) = 1",
             "holes(2) = 0", "clear() = 1", "lay(0, 990, 0, 0, 0, 0, 0) = 0", "force(1) = 1", "many(13) = 2");
+    }
+
+    /** What force(1) lays behind the rhombs of a text. */
+    private static void forces(String there, String laid) {
+        run("promise 43 on " + there, "load '" + there + "' = " + (there.split(";").length), "force(1) = 1", "printed '" + there + laid + "'");
     }
 
     private static void edges() {
