@@ -161,6 +161,10 @@ public final class TablePromisesTest {
         // A thin one alone: B is forced, and the A of what is laid there would be farther than a rhomb may lie.
         run("promise 43, too far", "lay(0, 999, 0, 0, 0, 0, 0) = 0", "holes(3) = 1", "force(1) ! 8", "many(13) = 1",
             "holes(2) = 0", "clear() = 1", "lay(0, 990, 0, 0, 0, 0, 0) = 0", "force(1) = 1", "many(13) = 2");
+        for (int d = 0; d < 9; d += d == 3 ? 2 : 1) {
+            String numbers = "0, 0, 0, 0".substring(0, d % 5 * 3) + (d < 5 ? 999 : -999) + "0, 0, 0, 0".substring(d % 5 * 3 + 1);
+            run("promise 43, too far by " + numbers, "lay(0, " + numbers + ", " + d + ", 0) = 0", "force(1) ! 8", "many(13) = 1");
+        }
     }
 
     /** What force(1) lays behind the rhombs of a text. */
@@ -260,7 +264,9 @@ public final class TablePromisesTest {
         run("promise 49", "printed ''", "lay(1, 0, 0, 0, 0, 0, 0) = 0", "printed 'thick 0 0 0 0 turn 0 hand 0;'",
             "lay(0, -1, 20, -300, 999, 9, 1) = 1",
             "printed 'thick 0 0 0 0 turn 0 hand 0;thin - 1 20 - 300 999 turn 9 hand 1;'", "take(0) = 1",
-            "printed 'thin - 1 20 - 300 999 turn 9 hand 1;'");
+            "printed 'thin - 1 20 - 300 999 turn 9 hand 1;'",
+            "clear() = 1", "lay(0, 100, 99, -100, -99, 5, 0) = 0", "lay(0, 10, 9, -10, -9, 5, 0) = 1",
+            "printed 'thin 100 99 - 100 - 99 turn 5 hand 0;thin 10 9 - 10 - 9 turn 5 hand 0;'");
         String[] lines = new String[30];
         for (int n = 0; n < 24; n++) {
             lines[n] = "lay(1, " + (-999 + 3 * n) + ", -999, -999, -999, 9, 1) = " + n;
