@@ -362,6 +362,10 @@ public final class RhombInflator {
         if (patch.lacks(i)) {
             return refuse(NO_SUCH);
         }
+        // A full table is looked at here, too: 3 stands ahead of 5, whatever the promise lists first.
+        if (table.count >= Table.ROOM) {
+            return refuse(TOO_MANY);
+        }
         int twin = sidesNow().twinOf(i);
         if (twin < 0) {
             return refuse(THERE_IS_NONE);

@@ -311,7 +311,8 @@ final class Model {
                     wrong |= n[k] < -999 || n[k] > 999;
                 }
                 return (long) (wrong ? no(1) : lay(n[0], new int[] {n[1], n[2], n[3], n[4]}, n[5], n[6]));
-            case "borrow": return (long) (noHalf(n[0]) ? no(2) : patch.twin(n[0]) < 0 ? no(5) : borrow(n[0]));
+            case "borrow":
+                return (long) (noHalf(n[0]) ? no(2) : table.rhombs.size() == 24 ? no(3) : patch.twin(n[0]) < 0 ? no(5) : borrow(n[0]));
             case "take":
                 if (noRhomb) {
                     return (long) no(2);

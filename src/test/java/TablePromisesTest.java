@@ -32,6 +32,7 @@ public final class TablePromisesTest {
         faults();
         print();
         covered();
+        firstOfTwo();
         CHECK.end("TablePromisesTest");
     }
 
@@ -67,6 +68,21 @@ public final class TablePromisesTest {
             "lay(1, 0, 0, 0, 0, 0, 0) ! 6", "lay(0, 0, 0, 0, 0, 5, 0) ! 6", "lay(0, 2, 0, 0, 0, 0, 0) = 1");
     }
 
+    /** Where two STATUSES hold the lesser one is told, in whatever order a promise lists them. */
+    private static void firstOfTwo() {
+        run("promise 2, the first that holds, a full TABLE", "load '" + FULL_TABLE + "' = 24", "borrow(10) ! 2", "borrow(0) ! 3",
+            "start(1) = 1", "borrow(0) ! 3", "borrow(1) ! 2", "start(2) = 1", "borrow(0) ! 3", "start(3) = 2", "borrow(0) ! 3",
+            "borrow(-1) ! 2", "lay(0, 0, 0, 0, 0, 0, 0) ! 3", "lay(0, 1, 0, 0, 0, 5, 1) ! 3", "lay(0, 0, 0, 0, 0, 10, 0) ! 1",
+            "take(0) = 23", "borrow(0) = 23", "borrow(0) ! 3", "start(1) = 1", "take(23) = 23", "borrow(0) ! 5");
+        run("promise 2, the first that holds, a full ROW", "row(0) = 0", "pick(0) = 1", "pick(0) = 2", "pick(0) = 3", "pick(0) = 4",
+            "pick(0) = 5", "pick(0) = 6", "pick(0) = 7", "pick(0) = 8", "pick(0) = 9", "pick(0) = 10", "pick(0) = 11", "pick(0) = 12",
+            "pick(10) ! 2", "pick(0) ! 3", "start(2) = 1", "pick(0) ! 3", "pick(1) ! 2", "putBy() = 12", "row(0) = 12", "pick(0) ! 6");
+        run("promise 2, the first that holds, else", "pick(10) ! 2", "pick(0) ! 5", "ribbon(10, 2, 0) ! 1", "ribbon(10, 0, 0) ! 2",
+            "ribbon(0, 0, 0) ! 5", "ribbon(0, 0, 2) ! 1", "figure(10, 3) ! 1", "figure(10, 0) ! 2", "figure(0, 1) ! 5",
+            "figure(0, 3) ! 1", "picked(2, 0, 0) ! 1", "picked(0, 0, 4) ! 1", "picked(0, 0, 0) ! 5", "comes(4, 1) ! 1",
+            "comes(0, -1) ! 1", "comes(0, 1) ! 5", "holes(5) ! 1", "holes(3) ! 5", "gaps(0, 2) ! 1", "gaps(0, 0) ! 2");
+    }
+
     private static void borrow() {
         run("promise 33", "borrow(0) ! 5", "borrow(10) ! 2", "borrow(-1) ! 2", "level(1) = 20", "borrow(2) = 0", "spot(0, 0, 0) = 1",
             "spot(0, 0, 2) = 1", "spot(0, 0, 3) = -1", "rhomb(0, 0) = 0", "rhomb(0, 1) = 4", "rhomb(0, 2) = 1", "borrow(0) ! 6",
@@ -76,7 +92,7 @@ public final class TablePromisesTest {
             "borrow(7) = 4", "borrow(8) = 5", "borrow(11) = 6", "borrow(12) = 7", "borrow(15) = 8", "borrow(16) = 9",
             "many(14) = 16", "holes(0) = 6", "open() = 10", "covered(0) = 10", "covered(1) = 10", "force(24) = 0");
         run("promise 33, full", "load '" + FULL_TABLE + "' = 24", "level(1) = 20", "borrow(0) ! 3", "borrow(20) ! 2", "level(2) = 50",
-            "start(0) = 10", "borrow(0) ! 5");
+            "start(0) = 10", "borrow(0) ! 3", "many(13) = 24", "take(23) = 23", "borrow(0) ! 5", "many(13) = 23");
         run("promise 33, an arrow", "level(1) = 20", "lay(1, 1, 0, 1, -1, 4, 0) = 0", "borrow(0) ! 7", "take(0) = 0", "borrow(0) = 0");
     }
 
