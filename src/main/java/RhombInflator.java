@@ -586,9 +586,6 @@ public final class RhombInflator {
     }
 
     private int layAt(int kind, long key, int d, int hand) {
-        if (table.count >= Table.ROOM) {
-            return refuse(TOO_MANY);
-        }
         int why = table.tryToLay(kind, key, d, hand);
         return why == 0 ? answer(table.count - 1) : refuse(why);
     }

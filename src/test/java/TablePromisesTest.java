@@ -246,6 +246,22 @@ public final class TablePromisesTest {
         faulty("100", 2, 0);
         faulty("thinn 0 0 0 0 turn 0 hand 0;", 2, 0);
         faulty("turn", 2, 0);
+        // One letter is another one, a sign stands for the other sign, a byte next to the letters or digits.
+        faulty("shin 0 0 0 0 turn 0 hand 0;", 2, 0);
+        faulty("thinz 0 0 0 0 turn 0 hand 0;", 2, 0);
+        faulty("athin 0 0 0 0 turn 0 hand 0;", 2, 0);
+        faulty("chick 0 0 0 0 turn 0 hand 0;", 2, 0);
+        faulty("trick 0 0 0 0 turn 0 hand 0;", 2, 0);
+        faulty("thin 0 0 0 0 burn 0 hand 0;", 2, 13);
+        faulty("thin 0 0 0 0 turn 0 land 0;", 2, 20);
+        faulty("thin 0 0 0 0 turn 0 hank 0;", 2, 20);
+        faulty("thin ; 5 0 0 0 turn 0 hand 0;", 2, 5);
+        faulty("thin 0 0 0 0 turn 0 hand 0-", 2, 26);
+        faulty("thin 0 0 0 0 turn 0 hand 0-;", 2, 26);
+        faulty("thin` 0 0 0 0 turn 0 hand 0;", 1, 4);
+        faulty("thin{ 0 0 0 0 turn 0 hand 0;", 1, 4);
+        faulty("thin 0/ 0 0 0 turn 0 hand 0;", 1, 6);
+        faulty("thin 0: 0 0 0 turn 0 hand 0;", 1, 6);
         faulty(";", 2, 0);
         faulty("-", 2, 0);
         faulty("thin", 2, 4);
