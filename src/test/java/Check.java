@@ -1,13 +1,22 @@
 /** What the tests of the project share: answers that are due, with the status behind them. */
 final class Check {
+    // One fault may spoil thousands of answers; the first ones tell enough.
+    private static final int MOST_TOLD = 100;
+
     private int wrong = 0;
     private int asked = 0;
+
+    private void tell(String what) {
+        wrong++;
+        if (wrong <= MOST_TOLD) {
+            System.out.println(what);
+        }
+    }
 
     void due(String call, long got, long want) {
         asked++;
         if (got != want) {
-            wrong++;
-            System.out.println(call + " answered " + got + ", due is " + want);
+            tell(call + " answered " + got + ", due is " + want);
         }
     }
 
@@ -30,8 +39,7 @@ final class Check {
     void holds(String what, boolean truth) {
         asked++;
         if (!truth) {
-            wrong++;
-            System.out.println("does not hold: " + what);
+            tell("does not hold: " + what);
         }
     }
 
