@@ -19,6 +19,7 @@ public final class TableBoundsTest {
         cornerWithin();
         marks();
         borrow();
+        borrowAll();
         takeAndClear();
         points();
         gaps();
@@ -152,6 +153,33 @@ public final class TableBoundsTest {
             "level(1) = 20", "borrow(19) ! 3", "borrow(20) ! 2", "level(0) = 10", "take(23) = 23", "borrow(9) ! 5", "borrow(10) ! 2");
         run("promise 33: 3 ahead of 6 and 7", "start(3) = 2", "borrow(0) = 0", "borrow(1) ! 6", "load '" + thicks(23) + "' = 23", "borrow(0) = 23",
             "borrow(0) ! 3", "borrow(1) ! 3", "take(0) = 23", "borrow(0) ! 6");
+    }
+
+    /** Every RHOMB of a patch, as it lies there, by either of its HALVES: directions of all ten, on both HANDS. */
+    private static void borrowAll() {
+        for (int i = 0; i < 50; i++) {
+            RhombInflator x = new RhombInflator();
+            x.level(2);
+            int twin = x.half(i, 4);
+            String told = "promise 33: as it lies there: borrow(" + i + ")";
+            if (twin == RhombInflator.NONE) {
+                CHECK.refuses(x, told, x.borrow(i), 5);
+                continue;
+            }
+            CHECK.gives(x, told, x.borrow(i), 0);
+            int lesser = Math.min(i, twin);
+            CHECK.due(told + ", KIND", x.rhomb(0, 0), x.half(lesser, 0));
+            for (int which = 0; which < 4; which++) {
+                CHECK.due(told + ", A", x.spot(0, 0, which), x.corner(lesser, 0, which));
+                CHECK.due(told + ", B", x.spot(0, 1, which), x.corner(lesser, 1, which));
+                CHECK.due(told + ", the other A", x.spot(0, 2, which), x.corner(Math.max(i, twin), 0, which));
+                CHECK.due(told + ", C", x.spot(0, 3, which), x.corner(lesser, 2, which));
+            }
+            int[] toB = PatchBoundsTest.STEPS[x.rhomb(0, 1)];
+            for (int which = 0; which < 4; which++) {
+                CHECK.due(told + ", d", x.spot(0, 1, which) - x.spot(0, 0, which), toB[which]);
+            }
+        }
     }
 
     private static void takeAndClear() {
