@@ -83,6 +83,7 @@ final class Script {
             nothingElseChanged(told, List.of("PATCH", "ROWS", "TABLE", "POINTS", "OUT"));
         } else if (stuck) {
             nothingElseChanged(told, List.of("PATCH", "ROWS", "TAPE", "OUT"));
+            rhombsStay(told);
         } else if (refused) {
             nothingElseChanged(told, Watch.PARTS);
         }
@@ -97,6 +98,15 @@ final class Script {
             List<String> due = views.computeIfAbsent(part, asked -> Watch.see(asked, moving));
             String other = Watch.difference(Watch.see(part, made), due);
             check.holds(told + " changes nothing else, but of the " + part + ": " + other, other == null);
+        }
+    }
+
+    /** What force() laid ahead of its STATUS stands behind the RHOMBS that were there, and these are as they were. */
+    private void rhombsStay(String told) {
+        List<String> after = Watch.see("TABLE", made);
+        for (String thing : Watch.see("TABLE", moving)) {
+            boolean ofOne = thing.startsWith("rhomb") || thing.startsWith("spot");
+            check.holds(told + " leaves what was there: " + thing, !ofOne || thing.endsWith("STATUS 2") || after.contains(thing));
         }
     }
 
