@@ -994,30 +994,32 @@ public final class RhombInflator {
 
         /** The number of the half with an address at a level of this START; below 0 if there is none. */
         int numberOf(int address, int level) {
-            int weight = 1;
-            for (int n = 0; n < level && n < DEEPEST; n++) {
-                weight *= 3;
-            }
-            int first = address / weight;
+            int first = shortened(address, level);
             int kind = root < 2 ? 0 : 1;
             if (first >= (root == 0 ? 10 : root == 3 ? 2 : 1)) {
                 return NONE;
             }
             int before = first * sizeOf(kind, level);
-            int rest = address % weight;
             for (int left = level - 1; left >= 0; left--) {
-                weight /= 3;
-                int digit = weight > 0 ? rest / weight : 0;
+                int digit = shortened(address, left) % 3;
                 if (digit > kind + 1) {
                     return NONE;
                 }
-                rest -= digit * weight;
                 for (int part = 0; part < digit; part++) {
                     before += sizeOf(partKind(kind, part), left);
                 }
                 kind = partKind(kind, digit);
             }
             return before;
+        }
+
+        /** An address without so many of its last digits. */
+        private static int shortened(int address, int digits) {
+            int rest = address;
+            for (int n = 0; n < digits && n < DEEPEST; n++) {
+                rest /= 3;
+            }
+            return rest;
         }
 
         private static int partKind(int kind, int digit) {
@@ -1030,11 +1032,7 @@ public final class RhombInflator {
 
         /** The half, n levels up, in which a half is. */
         int motherOf(int i, int n) {
-            int address = addressOf(i);
-            for (int up = 0; up < n && up < DEEPEST; up++) {
-                address /= 3;
-            }
-            return numberOf(address, depth - n);
+            return numberOf(shortened(addressOf(i), n), depth - n);
         }
 
         int sharedDepth(int i, int j) {
